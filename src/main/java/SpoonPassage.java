@@ -283,11 +283,8 @@ public final class SpoonPassage {
             return NONE;
         }
         for (int size = 0; size <= now.diggers; size++) {
-            // so few can't dig as much: none of their sets need be tried
-            if (wanted > size * n * MOST_DIGS) {
-                continue;
-            }
-            int found = lightOf(size, n, v);
+            // sets of so few that they can't dig as much need not be tried
+            int found = wanted > size * n * MOST_DIGS ? NONE : leastOf(size, n, v);
             if (found != NONE) {
                 return found;
             }
@@ -679,23 +676,21 @@ public final class SpoonPassage {
         return within(digger, 0, now.diggers - 1);
     }
 
-    /** The least set of so many LIT diggers with whom alone the HILL is v behind n nights, or NONE. */
-    private int lightOf(int size, int n, int v) {
-        // without one who has no candles a set raises as much with fewer
+    /** The least set of so many diggers with whom alone the HILL is v or more behind n nights, or NONE. */
+    private int leastOf(int size, int n, int v) {
+        // one without candles is in no set of the fewest: the others raise as much
         int lit = now.lit();
         for (int set = 0; set <= lit; set++) {
-            if ((set & ~lit) == 0 && Integer.bitCount(set) == size && hillBy(set, n) >= v) {
-                return set;
+            if ((set & ~lit) == 0 && Integer.bitCount(set) == size) {
+                thought.becomeAs(now);
+                thought.putOutAllBut(set);
+                thought.pass(n);
+                if (thought.hill() >= v) {
+                    return set;
+                }
             }
         }
         return NONE;
-    }
-
-    private int hillBy(int set, int n) {
-        thought.becomeAs(now);
-        thought.putOutAllBut(set);
-        thought.pass(n);
-        return thought.hill();
     }
 
     /** How much a sheet's numbers and a branch's DUG, night by night from now on, differ. */
@@ -869,7 +864,9 @@ public final class SpoonPassage {
             }
             int number = texts;
             table.write(number, reader);
-            laws[reader.key] = number;
+            if (within(reader.key, DIG, FINE)) {
+                laws[reader.key] = number;
+            }
             texts++;
             return number;
         }
@@ -963,10 +960,10 @@ public final class SpoonPassage {
             if (laws[DIG] == NONE) {
                 return held(d.force - b.rock);
             }
-            table.name(0, d.force);
-            table.name(1, b.rock);
-            table.name(2, b.ahead());
-            table.name(3, litIn(d.branch));
+            table.put(0, d.force);
+            table.put(1, b.rock);
+            table.put(2, b.ahead());
+            table.put(3, litIn(d.branch));
             return held(table.gives(laws[DIG]));
         }
 
@@ -974,8 +971,8 @@ public final class SpoonPassage {
             if (laws[FEE] == NONE) {
                 return met;
             }
-            table.name(0, met);
-            table.name(1, hill());
+            table.put(0, met);
+            table.put(1, hill());
             return table.gives(laws[FEE]);
         }
 
@@ -983,8 +980,8 @@ public final class SpoonPassage {
             if (laws[FINE] == NONE) {
                 return d.candles;
             }
-            table.name(0, d.force);
-            table.name(1, d.candles);
+            table.put(0, d.force);
+            table.put(1, d.candles);
             return table.gives(laws[FINE]);
         }
 
@@ -1126,7 +1123,7 @@ public final class SpoonPassage {
             }
         }
 
-        void name(int name, int v) {
+        void put(int name, int v) {
             if (name >= 0 && name < NAMES) {
                 named[name] = v;
             }
@@ -1139,50 +1136,33 @@ public final class SpoonPassage {
             }
             int from = text * TAPE_ROOM;
             int top = 0;
-            for (int i = 0; i < lengths[text] && i < TAPE_ROOM; i++) {
-                top = work(code[from + i], top);
+            for (int i = 0; i < lengths[text] && i < TAPE_ROOM && top < TAPE_ROOM; i++) {
+                int step = code[from + i];
+                if (step < SIGNED) {
+                    stack[top] = step < NAMED ? step : named[(step - NAMED) % NAMES];
+                    top++;
+                } else if (step == SIGNED + '!' && top >= 1) {
+                    stack[top - 1] = stack[top - 1] == 0 ? 1 : 0;
+                } else if (top >= 2) {
+                    top--;
+                    stack[top - 1] = joined(step - SIGNED, stack[top - 1], stack[top]);
+                }
             }
             return stack[0];
         }
 
-        /** Does one step with so many numbers on the stack; how many there are then. */
-        int work(int step, int top) {
-            if (step < SIGNED) {
-                if (top < 0 || top >= TAPE_ROOM) {
-                    return top;
-                }
-                stack[top] = step < NAMED ? step : named[(step - NAMED) & (NAMES - 1)];
-                return top + 1;
-            }
-            if (step == SIGNED + '!') {
-                if (top >= 1 && top <= TAPE_ROOM) {
-                    stack[top - 1] = truth(stack[top - 1] == 0);
-                }
-                return top;
-            }
-            if (top < 2 || top > TAPE_ROOM) {
-                return top;
-            }
-            stack[top - 2] = joined(step - SIGNED, stack[top - 2], stack[top - 1]);
-            return top - 1;
-        }
-
         static int joined(int sign, int a, int b) {
             switch (sign) {
-                case '|': return truth(a != 0 || b != 0);
-                case '&': return truth(a != 0 && b != 0);
-                case '<': return truth(a < b);
-                case '=': return truth(a == b);
-                case '>': return truth(a > b);
+                case '|': return a != 0 || b != 0 ? 1 : 0;
+                case '&': return a != 0 && b != 0 ? 1 : 0;
+                case '<': return a < b ? 1 : 0;
+                case '=': return a == b ? 1 : 0;
+                case '>': return a > b ? 1 : 0;
                 case '+': return a + b;
                 case '-': return a - b;
                 case '*': return a * b;
                 default: return b == 0 ? 0 : a / b;
             }
-        }
-
-        static int truth(boolean is) {
-            return is ? 1 : 0;
         }
     }
 
@@ -1238,7 +1218,7 @@ public final class SpoonPassage {
 
         void next() {
             int i = end;
-            while (i < size && tape[i] == ' ') {
+            while (i < size && byteAt(i) == ' ') {
                 i++;
             }
             boolean behindWord = i == end && isWord(sort);
@@ -1295,8 +1275,8 @@ public final class SpoonPassage {
             return true;
         }
 
-        /** Reads a part that binds as a level does or closer; if not, the fault is at start. */
-        boolean part(int level) {
+        /** Reads a part that binds as a level does or closer; if there is none, the fault is at start. */
+        private boolean part(int level) {
             if (level >= PIECE) {
                 return piece();
             }
@@ -1315,6 +1295,45 @@ public final class SpoonPassage {
             return true;
         }
 
+        private boolean piece() {
+            if (isWord(sort)) {
+                return leaf();
+            }
+            int sign = byteAt(start);
+            if (sign == '!') {
+                return not();
+            }
+            return sign == '(' && bracket();
+        }
+
+        private boolean not() {
+            if (nots >= MOST_OPEN) {
+                return false;
+            }
+            nots++;
+            next();
+            if (!piece()) {
+                return false;
+            }
+            nots--;
+            put(SIGNED + '!');
+            return true;
+        }
+
+        private boolean bracket() {
+            if (open >= MOST_OPEN) {
+                return false;
+            }
+            open++;
+            next();
+            if (!part(LOOSEST) || byteAt(start) != ')') {
+                return false;
+            }
+            open--;
+            next();
+            return true;
+        }
+
         boolean isSignOf(int level) {
             return sort == SIGN && signsOf(level).indexOf((char) byteAt(start)) >= 0;
         }
@@ -1329,37 +1348,33 @@ public final class SpoonPassage {
             }
         }
 
-        boolean piece() {
-            if (tight) {
+        boolean leaf() {
+            int step = sort == DIGITS ? number() : name();
+            if (tight || step < 0) {
                 return false;
             }
-            if (sort == DIGITS) {
-                return number();
-            }
-            if (sort == LETTERS) {
-                return name();
-            }
-            int sign = byteAt(start);
-            if (sign == '!') {
-                return not();
-            }
-            return sign == '(' && bracket();
+            put(step);
+            leafCount++;
+            next();
+            return true;
         }
 
-        boolean number() {
+        /** The number that is looked at, or -1: it is too long. */
+        int number() {
             if (end - start > MOST_DIGITS) {
-                return false;
+                return -1;
             }
             int v = 0;
             for (int i = start; i < end; i++) {
                 v = v * 10 + byteAt(i) - '0';
             }
-            return leaf(v);
+            return v;
         }
 
-        boolean name() {
-            int name = end - start == 1 ? namesOf(key).indexOf((char) byteAt(start)) : -1;
-            return name >= 0 && leaf(NAMED + name);
+        /** The step for the name that is looked at, or -1: the key has no such name. */
+        int name() {
+            int place = end - start == 1 ? namesOf(key).indexOf((char) byteAt(start)) : -1;
+            return place < 0 ? -1 : NAMED + place;
         }
 
         static String namesOf(int key) {
@@ -1368,41 +1383,6 @@ public final class SpoonPassage {
                 case FEE: return "mh";
                 default: return "fc";
             }
-        }
-
-        boolean leaf(int step) {
-            put(step);
-            leafCount++;
-            next();
-            return true;
-        }
-
-        boolean not() {
-            if (nots >= MOST_OPEN) {
-                return false;
-            }
-            nots++;
-            next();
-            if (!piece()) {
-                return false;
-            }
-            nots--;
-            put(SIGNED + '!');
-            return true;
-        }
-
-        boolean bracket() {
-            if (open >= MOST_OPEN) {
-                return false;
-            }
-            open++;
-            next();
-            if (!part(LOOSEST) || byteAt(start) != ')') {
-                return false;
-            }
-            open--;
-            next();
-            return true;
         }
 
         void put(int step) {
