@@ -282,11 +282,20 @@ public final class SpoonPassage {
         if (wanted > now.room()) {
             return NONE;
         }
+        // one without candles is in no set of the fewest: the others raise as much
+        int lit = now.lit();
         for (int size = 0; size <= now.diggers; size++) {
-            // sets of so few that they can't dig as much need not be tried
-            int found = wanted > size * n * MOST_DIGS ? NONE : leastOf(size, n, v);
-            if (found != NONE) {
-                return found;
+            // so few that they can't dig as much need not be tried
+            boolean enough = wanted <= size * n * MOST_DIGS;
+            for (int set = 0; enough && set <= lit; set++) {
+                if ((set & ~lit) == 0 && Integer.bitCount(set) == size) {
+                    thought.becomeAs(now);
+                    thought.putOutAllBut(set);
+                    thought.pass(n);
+                    if (thought.hill() >= v) {
+                        return set;
+                    }
+                }
             }
         }
         return NONE;
@@ -674,23 +683,6 @@ public final class SpoonPassage {
 
     private boolean isDigger(int digger) {
         return within(digger, 0, now.diggers - 1);
-    }
-
-    /** The least set of so many diggers with whom alone the HILL is v or more behind n nights, or NONE. */
-    private int leastOf(int size, int n, int v) {
-        // one without candles is in no set of the fewest: the others raise as much
-        int lit = now.lit();
-        for (int set = 0; set <= lit; set++) {
-            if ((set & ~lit) == 0 && Integer.bitCount(set) == size) {
-                thought.becomeAs(now);
-                thought.putOutAllBut(set);
-                thought.pass(n);
-                if (thought.hill() >= v) {
-                    return set;
-                }
-            }
-        }
-        return NONE;
     }
 
     /** How much a sheet's numbers and a branch's DUG, night by night from now on, differ. */
@@ -1236,10 +1228,10 @@ public final class SpoonPassage {
         }
 
         int sortAt(int place) {
-            int b = byteAt(place);
-            if (b < 0) {
+            if (place < 0 || place >= size || place >= TAPE_ROOM) {
                 return END;
             }
+            int b = tape[place];
             if (b >= 'a' && b <= 'z') {
                 return LETTERS;
             }
