@@ -136,6 +136,8 @@ public final class PromisesTest {
         due(3, "a nun's earth", y.told(0, 4), 19);
         due(3, "a tenth of it", y.told(0, 7), 1);
         due(3, "her candles", y.told(0, 2), 61);
+        y.nights(1);
+        due(3, "a tenth of 20", y.told(0, 7), 2);
     }
 
     private static void as() {
@@ -198,6 +200,8 @@ public final class PromisesTest {
         due(8, "dug", x.branch(3, 0, 999), 0);
         due(8, "warder", x.branch(3, 2, 999), 0);
         due(8, "warder back", x.branch(3, 2, 500), 999);
+        due(8, "all the way", x.branch(3, 2, 0), 500);
+        due(8, "and on", x.branch(3, 2, 500), 0);
         due(8, "dug to him", x.branch(3, 0, 500), 999);
         due(8, "dug below him", x.branch(3, 0, 499), BAD);
         due(8, "he above it", x.branch(3, 2, 501), BAD);
@@ -378,7 +382,9 @@ public final class PromisesTest {
             }
         }
         x.rule(1, 0);
-        x.nights(50);
+        for (int i = 0; i < 5; i++) {
+            x.nights(100);
+        }
         due(13, "none falls", x.count(5), falls);
     }
 
@@ -467,6 +473,8 @@ public final class PromisesTest {
         x.branch(2, 0, 3);
         x.digger(2, 14, 1, 2);
         due(16, "now", x.reaches(2, 3), 0);
+        due(16, "none is wanted", x.reaches(0, 0), 0);
+        due(16, "never", x.reaches(0, 999), NONE);
         due(16, "by 2 a night", x.reaches(2, 4), 1);
         due(16, "by 2 a night", x.reaches(2, 403), 200);
         due(16, "not by then", x.reaches(2, 404), NONE);
@@ -518,6 +526,16 @@ public final class PromisesTest {
         due(18, "nothing changes", x.below(3), 36);
         x.nights(1);
         due(18, "the hill that there is counts", x.light(1, 90), 1);
+
+        // all that there is room for, and no more
+        SpoonPassage r = new SpoonPassage();
+        for (int b = 0; b < 4; b++) {
+            r.branch(b, 0, 990);
+            r.digger(0, 50, 9, b);
+        }
+        due(18, "all of it", r.light(1, 36), 15);
+        due(18, "a quarter", r.light(9, 9), 1);
+        due(18, "one more than there is room for", r.light(10, 37), NONE);
 
         // fewer who are lit dig more by this law
         SpoonPassage y = new SpoonPassage();
@@ -694,6 +712,15 @@ public final class PromisesTest {
         gives("5&6", 1);
         gives("0|6", 1);
         gives("5&0|3", 1);
+        gives("0|0", 0);
+        gives("0|1", 1);
+        gives("1&1", 1);
+        gives("1&0", 0);
+        gives("f=c", 0);
+        gives("f>f", 0);
+        gives("f<f", 0);
+        gives("c>f", 0);
+        gives("c<f", 1);
         gives("!f", 0);
         gives("!0", 1);
         gives("!!9", 1);
@@ -762,6 +789,12 @@ public final class PromisesTest {
         fault("digs f", 0);
         fault(" di f", 1);
         fault("digf", 0);
+        fault("digz f", 0);
+        fault("diga f", 0);
+        fault("bee m", 0);
+        fault("dig f0", 5);
+        fault("dig 9{", 5);
+        fault("dig 9`", 5);
         fault("(f)", 0);
         fault("5", 0);
         fault("Dig f", 0);
@@ -1160,6 +1193,7 @@ public final class PromisesTest {
         SpoonPassage y = new SpoonPassage();
         due(41, "of nobody", y.keep(), 0);
         y.deal(4);
+        y.nights(5);
         due(42, "of nobody", y.back(), 0);
         y.digger(0, 0, 0, 0);
         due(42, "who comes has no earth", y.told(0, 4), 0);
