@@ -101,6 +101,10 @@ public final class ModelTest {
     }
 
     private void both(String name, int[] args) throws Exception {
+        if (made >= CALLS) {
+            // what an object answers behind so many calls is free
+            return;
+        }
         Object[] boxed = new Object[args.length];
         StringBuilder call = new StringBuilder("run " + run + ", call " + made + ": " + name);
         for (int i = 0; i < args.length; i++) {

@@ -270,7 +270,8 @@ public final class TextsEdgesTest {
             isText(key + " 1");
             isText("  " + key + "  1");
         }
-        for (String key : new String[] {"di", "digs", "fe", "feed", "fin", "fines", "d", "f", "xdig", "gid", "ffee", "figfee"}) {
+        for (String key : new String[] {"di", "digs", "fe", "feed", "fin", "fines", "d", "f", "xdig", "gid", "ffee", "figfee", "big", "dog", "die", "bee",
+            "foe", "fed", "dine", "fane", "file", "find"}) {
             fault(key + " 1", 0);
             fault(" " + key + " 1", 1);
         }
@@ -432,6 +433,17 @@ public final class TextsEdgesTest {
         isText("fee " + "!".repeat(8) + "m+" + "!".repeat(8) + "m");
         isText("fee " + "!".repeat(8) + "(m)+" + "!".repeat(8) + "(m)");
         isText("fee " + "!".repeat(7) + "(!m+!m)");
+    }
+
+    static void promise27WhatAFaultLeftOpenCountsNoMore() {
+        SpoonPassage x = new SpoonPassage();
+        due("eight open", Due.text(x, "fee " + "(".repeat(8)), -112);
+        due("eight more", Due.text(x, deep("(", 8, "m", ")")), 0);
+        due("eight nots", Due.text(x, "fee " + "!".repeat(8)), -112);
+        due("eight more", Due.text(x, deep("!", 8, "m", "")), 1);
+        due("numbers", Due.text(x, "fee 1+2+3+"), -110);
+        due("one name", Due.text(x, "fee m"), 2);
+        due("is all that it has", x.textTold(2, 1), 1);
     }
 
     static void promise27NotsWithinBracketsOfOthers() {

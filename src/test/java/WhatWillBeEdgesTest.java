@@ -280,6 +280,18 @@ public final class WhatWillBeEdgesTest {
         due("one more", y.light(10, 1000), NONE);
     }
 
+    static void promise18AllThatThereIsRoomFor() {
+        SpoonPassage x = new SpoonPassage();
+        x.rule(0, 0);
+        for (int b = 0; b < 4; b++) {
+            x.branch(b, 0, 994);
+            x.digger(0, 30, 9, b);
+        }
+        due("all of it", x.light(1, 20), 15);
+        due("three quarters", x.light(10, 15), 7);
+        due("one more", x.light(10, 21), NONE);
+    }
+
     static void promise18CandlesOfAllOthersAre0() {
         // a lodger digs 2 more for each uncle that is lit
         SpoonPassage x = Scenes.one(4, 0, 9);
@@ -655,6 +667,13 @@ public final class WhatWillBeEdgesTest {
         due("above 9999", x.fee(), 10049);
         Due.text(x, "fee m");
         due("met, none", x.fee(), 0);
+        SpoonPassage y = new SpoonPassage();
+        y.digger(0, 0, 0, 0);
+        y.nights(100);
+        Due.text(y, "fee m");
+        due("met, in each branch in each night", y.fee(), 400);
+        Due.text(y, "fee h-m");
+        due("hill, none", y.fee(), -400);
     }
 
     static void promise23IntsWrap() {
