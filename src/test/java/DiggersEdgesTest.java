@@ -644,6 +644,25 @@ public final class DiggersEdgesTest {
         due("nobody is here", x.branchOf(1, 5), 0);
     }
 
+    static void promise09AllTenDig() {
+        SpoonPassage x = Scenes.still();
+        for (int i = 0; i < 10; i++) {
+            x.digger(0, 99, 1, 0);
+        }
+        due("together", x.branchOf(0, 5), 990);
+        due("nobody elsewhere", x.branchOf(3, 5), 0);
+    }
+
+    static void promise09OneWhoIsGoneDigsNoMore() {
+        SpoonPassage x = Scenes.one(0, 20, 9);
+        x.keep();
+        x.digger(0, 30, 9, 0);
+        due("both", x.branchOf(0, 5), 50);
+        x.back();
+        due("the first", x.branchOf(0, 5), 20);
+        due("as a set", x.branchOf(0, 4), 1);
+    }
+
     static void promise09TheyDigAsTheyAre() {
         SpoonPassage x = Scenes.one(3, 49, 9);
         x.digger(3, 49, 9, 0);

@@ -197,6 +197,46 @@ public final class TextsEdgesTest {
         due("the end comes too soon", x.text(), -106);
     }
 
+    static void promise27NoBracketBeyondTheTapeCloses() {
+        String[] rows = {"fee (m)", "fee ((m))", "fee !(m)", "fee (m)+(m)"};
+        for (String text : rows) {
+            SpoonPassage x = new SpoonPassage();
+            Due.tape(x, text);
+            x.trim(text.length() - 1);
+            due("'" + text + "' but for its last", x.text(), -100 - (text.length() - 1));
+            Due.text(x, text);
+            due("used up", x.text(), -100);
+        }
+    }
+
+    static void promise27EachByteBeyondTheTape() {
+        for (String kept : new String[] {"", "fee", "fee ", "fee m", "fee 1", "fee (m", "fee !", "fee m+"}) {
+            int want = Due.text(new SpoonPassage(), kept);
+            for (int b = 0; b < 256; b++) {
+                SpoonPassage x = new SpoonPassage();
+                Due.tape(x, kept + (char) b);
+                x.trim(kept.length());
+                due("'" + kept + "' ahead of " + b, x.text(), want);
+            }
+        }
+    }
+
+    static void promise27AShorterTextInTheRoomOfALongerOne() {
+        String[] longer = {"fee !0", "fee !!!!!!!!0", "fee 1+2", "fee 9*9-9/9", "fee 1|0&1", "fee m+h*2<9"};
+        for (String text : longer) {
+            SpoonPassage x = new SpoonPassage();
+            x.keep();
+            due("the longer", Due.text(x, text), 0);
+            x.back();
+            due("the shorter", Due.text(x, "fee 5"), 0);
+            due("gives", x.fee(), 5);
+            due("has", x.textTold(0, 1), 1);
+            x.back();
+            due("one between", Due.text(x, "fee 5-3"), 0);
+            due("gives", x.fee(), 2);
+        }
+    }
+
     // ---- 27: words, signs, blanks
 
     static void promise27TheFirstByte() {
